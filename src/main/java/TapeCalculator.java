@@ -173,7 +173,7 @@ public final class TapeCalculator {
     }
 
     public int blank(int tape) {
-        return units.tapeAt(tape) == null ? BAD : units.clearTape(tape);
+        return units.clearTape(tape);
     }
 
     public long drum(int i) {
@@ -656,11 +656,11 @@ public final class TapeCalculator {
             return t >= 0 && t < tapes.length ? tapes[t] : null;
         }
 
-        /** How many ITEMS the tape had. */
+        /** How many ITEMS the tape had, or BAD. */
         int clearTape(int t) {
             Tape tape = tapeAt(t);
             if (tape == null) {
-                return 0;
+                return BAD;
             }
             int before = tape.count;
             tape.clear();
@@ -715,9 +715,9 @@ public final class TapeCalculator {
         /** False: the END OF RECORD that is due has no room. */
         private boolean endRecord() {
             Tape tape = writtenTape();
-            boolean due = wordWritten && tape != null;
+            boolean due = wordWritten;
             wordWritten = false;
-            return !due || tape.putHere(END_OF_RECORD);
+            return tape == null || !due || tape.putHere(END_OF_RECORD);
         }
 
         void endByStop() {

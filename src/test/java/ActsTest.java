@@ -263,6 +263,14 @@ final class ActsTest {
         Check.due("LIGHT 3 is off", x.told(6), 11);
         Check.once(x, Check.plus(30, 75));
         Check.due("LIGHT 3 was off", x.told(5), 1);
+        for (int k = 1; k <= 4; k++) {
+            Check.once(x, Check.plus(30, 64 + k));
+            Check.due("SENSE LIGHT " + k, Check.once(x, Check.plus(30, 72 + k)), 0);
+            Check.due("LIGHT was on " + k, x.told(5), 2);
+            Check.due("LIGHT is off " + k, x.told(6) >> k - 1 & 1, 0);
+        }
+        Check.once(x, Check.plus(30, 66));
+        Check.once(x, Check.plus(30, 68));
         Check.once(x, Check.plus(30, 64));
         Check.due("all off", x.told(6), 0);
         for (int k = 1; k <= 4; k++) {

@@ -6,6 +6,7 @@ final class TextTest {
         laterLinesWin();
         faults();
         faultsPutNothing();
+        earlierTextIsGone();
         manyLines();
         writtenActs();
         writtenComesBack();
@@ -109,6 +110,16 @@ final class TextTest {
         Check.due("half 2", x.half(2), 99);
         Check.due("half 3", x.half(3), 0);
         Check.due("the text is empty", x.load(), 0);
+    }
+
+    /** What an earlier text left behind the end is no part of a later one. */
+    private static void earlierTextIsGone() {
+        TapeCalculator x = new TapeCalculator();
+        Check.due("a long text", load(x, "3 9+5\n3 9+6\n"), 2);
+        Check.due("a text that ends in a LINE", load(x, "3 9+7"), -15);
+        Check.due("nothing is put", x.half(3), Check.plus(9, 6));
+        Check.due("a shorter text", load(x, "3 9+8\n"), 1);
+        Check.due("it is put", x.half(3), Check.plus(9, 8));
     }
 
     private static void manyLines() {
