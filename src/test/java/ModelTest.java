@@ -15,73 +15,81 @@ final class ModelTest {
         name = "seed " + seed + ": ";
     }
 
+    /** So many acts and runs that each object stays within its 512 calls. */
     public static void main(String[] args) {
-        for (long seed = 1; seed <= 300; seed++) {
-            new ModelTest(seed).actsOneByOne(400);
-            new ModelTest(seed).programs(40);
+        for (long seed = 1; seed <= 1000; seed++) {
+            new ModelTest(seed).actsOneByOne(80);
+            new ModelTest(seed).actsOnAFullTape(30);
+            new ModelTest(seed).programs(50);
         }
-        for (long seed = 1; seed <= 100; seed++) {
-            new ModelTest(seed).wrongAndRight(500);
+        for (long seed = 1; seed <= 400; seed++) {
+            new ModelTest(seed).wrongAndRight(160);
         }
         Check.end();
     }
 
     private void actsOneByOne(int steps) {
-        if (random.nextInt(4) == 0) {
-            nearlyFull();
-        }
         for (int i = 0; i < steps; i++) {
             hand();
             Check.due(name + "place " + i, x.told(5), model.place);
             int bits = anyAct();
-            x.put(model.place, bits);
-            model.halves[model.place] = bits;
+            setHalf(model.place, bits);
             Check.due(name + "step " + i + " of act " + bits / 4096 % 32, x.step(), model.step());
             Check.due(name + "digest " + i + " behind act " + bits / 4096 % 32, x.digest(), model.digest());
         }
         Check.due(name + "acts", x.acts(), model.acts);
     }
 
+    private void actsOnAFullTape(int steps) {
+        nearlyFull();
+        actsOneByOne(steps);
+    }
+
     private void programs(int runs) {
-        for (int n = 0; n < 512; n++) {
+        for (int n = 0; n < 256; n++) {
             setHalf(n, random.nextInt(3) == 0 ? random.nextInt(262144) : anyAct());
         }
         for (int i = 0; i < runs; i++) {
             hand();
             int n = random.nextInt(300);
-            int done = 0;
-            model.stop = 0;
-            while (done < n && model.stop == 0) {
-                model.step();
-                done++;
-            }
-            Check.due(name + "run " + i, x.run(n), done);
+            Check.due(name + "run " + i, x.run(n), runModel(n));
             Check.due(name + "digest of run " + i, x.digest(), model.digest());
             if (model.stop != 0) {
-                setRegister(5, random.nextInt(512));
+                setRegister(5, random.nextInt(256));
             }
         }
         Check.due(name + "acts", x.acts(), model.acts);
     }
 
-    /** Tapes that are nearly full, and stand near their ends. */
-    private void nearlyFull() {
-        for (int tape = 0; tape < 4; tape++) {
-            int count = 295 + random.nextInt(6);
-            for (int i = 0; i < count; i++) {
-                long v = random.nextInt(20) == 0 ? -2 - random.nextInt(2) : anyWord();
-                x.lay(tape, v);
-                model.tapes.get(tape).add(v);
-            }
-            int steps = 2 * random.nextInt(count);
-            setHalf(0, Check.plus(24, 256 + tape));
-            setHalf(1, Check.minus(31, 100));
-            for (int i = 0; i < steps; i++) {
-                setRegister(5, model.unit.equals("none") ? 0 : 1);
-                x.step();
-                model.step();
-            }
+    private int runModel(int n) {
+        int done = 0;
+        model.stop = 0;
+        while (done < n && model.stop == 0) {
+            model.step();
+            done++;
         }
+        return done;
+    }
+
+    /** A tape that is nearly full, and stands near its end, or ahead of it. */
+    private void nearlyFull() {
+        int tape = random.nextInt(4);
+        int count = 295 + random.nextInt(6);
+        for (int i = 0; i < count; i++) {
+            layOn(tape, i >= 295 && random.nextInt(3) == 0 ? -2 - random.nextInt(2) : anyWord());
+        }
+        setHalf(0, Check.plus(24, 256 + tape));
+        setHalf(1, Check.minus(31, 100));
+        setHalf(2, Check.plus(1, 1));
+        int passed = random.nextInt(4) == 0 ? random.nextInt(295) : 290 + random.nextInt(count - 289);
+        Check.due(name + "read", x.run(1 + 2 * passed), runModel(1 + 2 * passed));
+        setHalf(model.place, Check.plus(26, 256 + tape));
+        Check.due(name + "step", x.step(), model.step());
+    }
+
+    private void layOn(int tape, long v) {
+        model.tapes.get(tape).add(v);
+        Check.due(name + "lay", x.lay(tape, v), model.tapes.get(tape).size());
     }
 
     private int anyAct() {
@@ -152,8 +160,7 @@ final class ModelTest {
         if (model.tapes.get(tape).size() == 300) {
             Check.due(name + "lay", x.lay(tape, v), Check.FULL);
         } else {
-            model.tapes.get(tape).add(v);
-            Check.due(name + "lay", x.lay(tape, v), model.tapes.get(tape).size());
+            layOn(tape, v);
         }
     }
 

@@ -1,10 +1,22 @@
 /** Promise 1: a new object. */
 final class NewObjectTest {
     public static void main(String[] args) {
+        halves();
+        registersAndUnits();
+        twoObjectsAreApart();
+        Check.end();
+    }
+
+    /** An object has 512 calls: these are all of them. */
+    private static void halves() {
         TapeCalculator x = new TapeCalculator();
         for (int n = 0; n < 512; n++) {
             Check.due("half " + n, x.half(n), 0);
         }
+    }
+
+    private static void registersAndUnits() {
+        TapeCalculator x = new TapeCalculator();
         for (int what = 0; what < 10; what++) {
             Check.due("told " + what, x.told(what), 0);
         }
@@ -20,8 +32,6 @@ final class NewObjectTest {
         }
         Check.due("acts", x.acts(), 0);
         Check.due("load", x.load(), 0);
-        twoObjectsAreApart();
-        Check.end();
     }
 
     private static void twoObjectsAreApart() {

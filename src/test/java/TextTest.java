@@ -126,10 +126,10 @@ final class TextTest {
         TapeCalculator x = new TapeCalculator();
         Check.due("200 LINES", load(x, "0 8+0\n".repeat(200)), 200);
         Check.due("201 LINES", load(x, "0 8+1\n".repeat(201)), -10 - 1200);
-        Check.due("a byte behind 200 LINES", load(x, "0 8+1\n".repeat(200) + "?"), -10 - 1200);
-        Check.due("a fault ahead of the 201st LINE", load(x, "0 8+1\n".repeat(199) + "0 8+x\n0 8+1\n"), -10 - 1198);
         Check.due("nothing is put", x.half(0), Check.plus(8, 0));
-        Check.due("a text of 2000 bytes", load(x, "0000 ==+1\n".repeat(200)), 200);
+        fault("0 8+1\n".repeat(200) + "?", 1200);
+        fault("0 8+1\n".repeat(199) + "0 8+x\n0 8+1\n", 1198);
+        Check.due("a text of 2000 bytes", load(new TapeCalculator(), "0000 ==+1\n".repeat(200)), 200);
     }
 
     private static void dueLine(TapeCalculator x, int n, String want) {
