@@ -2,7 +2,7 @@
 final class ActEdgesTest {
     private static final long M = Check.MOST_SIZE, P = 1L << 35, Q = 1L << 36, MOST = Check.MOST_ACC;
     private static final int TAKE = 5, LOAD_LESS = 6, TAKE_SIZE = 7, ADD = 9, LOAD = 10, ADD_SIZE = 11, STORE = 12,
-        PART = 13, STORE_MQ = 14, TIMES = 16, TIMES_ROUND = 17, SHARE = 18, ROUND = 19, SENSE = 30;
+        PART = 13, STORE_MQ = 14, LOAD_MQ = 15, TIMES = 16, TIMES_ROUND = 17, SHARE = 18, ROUND = 19, SENSE = 30;
 
     public static void main(String[] args) {
         ifOver();
@@ -17,6 +17,7 @@ final class ActEdgesTest {
         loadsOfZero();
         loadsFromAFullAcc();
         storesWithoutQAndP();
+        storesOfZero();
         addressBits();
         bitsThatStay();
         products();
@@ -216,6 +217,24 @@ final class ActEdgesTest {
             Check.once(x, Check.minus(STORE_MQ, 100));
             Check.due("STORE MQ", x.whole(100), (1 - sign) * P + M);
             Check.dueRegisters("they stay", x, sign, MOST, 1 - sign, M, 0);
+        }
+    }
+
+    /** A SIZE of 0 has a SIGN like any other, wherever it comes to. */
+    private static void storesOfZero() {
+        for (int sign = 0; sign < 2; sign++) {
+            TapeCalculator x = with(sign, 0, 1 - sign, 0, 0);
+            Check.once(x, Check.minus(STORE, 100));
+            Check.due("ACC of SIGN " + sign, x.whole(100), sign * P);
+            Check.once(x, Check.plus(STORE, 103));
+            Check.due("ACC of SIGN " + sign + " to a HALF", x.half(103), sign * 131072);
+            Check.once(x, Check.minus(STORE_MQ, 100));
+            Check.due("MQ of SIGN " + (1 - sign), x.whole(100), (1 - sign) * P);
+            Check.once(x, Check.plus(STORE_MQ, 103));
+            Check.due("MQ of SIGN " + (1 - sign) + " to a HALF", x.half(103), (1 - sign) * 131072);
+            Check.putWhole(x, 104, sign * P);
+            Check.once(x, Check.minus(LOAD_MQ, 104));
+            Check.dueRegisters("LOAD MQ", x, sign, 0, sign, 0, 0);
         }
     }
 

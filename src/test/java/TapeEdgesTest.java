@@ -24,6 +24,7 @@ final class TapeEdgesTest {
         lastRecordOfATape();
         recordWithoutRoom();
         recordWithoutRoomAtStops();
+        stopFiveAlone();
         lastFileOfATape();
         recordAndFileOfOneAct();
         recordAndFileOfTwoTapes();
@@ -351,6 +352,32 @@ final class TapeEdgesTest {
             Check.due("REWIND then", act(x, REWIND, 0), 0);
             Check.due("300 ITEMS", x.blank(0), 300);
         }
+    }
+
+    /** STOP 5 leaves all as another STOP would in its place: a full tape gets no END OF RECORD by either. */
+    private static void stopFiveAlone() {
+        for (int bits : new int[] {COPY_100, Check.plus(READ, 257), Check.plus(WRITE, 128), Check.plus(WRITE_END, 256)}) {
+            for (int over = 0; over < 2; over++) {
+                TapeCalculator x = fullAndUsed(over);
+                TapeCalculator twin = fullAndUsed(over);
+                x.put(300, bits);
+                Check.due("STOP 5 of " + bits, x.step(), 5);
+                twin.put(300, Check.plus(30, 0));
+                Check.due("STOP 4", twin.step(), 4);
+                Twin.forgetStop(x);
+                Twin.forgetStop(twin);
+                Twin.alike("STOP 5 of " + bits, x, twin);
+            }
+        }
+    }
+
+    private static TapeCalculator fullAndUsed(int over) {
+        TapeCalculator x = written(300);
+        Check.registers(x, 1, Check.MOST_ACC - 5, over, Check.MOST_SIZE - 9, over);
+        Check.once(x, Check.plus(30, 66));
+        x.turn(3, true);
+        x.set(5, 300);
+        return x;
     }
 
     private static void lastFileOfATape() {

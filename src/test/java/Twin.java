@@ -111,7 +111,7 @@ final class Twin {
         alike(what + ": nothing else", x, twin);
     }
 
-    private static void forgetStop(TapeCalculator x) {
+    static void forgetStop(TapeCalculator x) {
         x.put((int) x.told(5), NOTHING);
         x.step();
     }
