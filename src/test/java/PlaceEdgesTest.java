@@ -9,6 +9,7 @@ final class PlaceEdgesTest {
         goingTo511();
         goingAbove511();
         notGoingAbove511();
+        operandsOfHalvesAndWholes();
         operandsAt511();
         operandsAbove511();
         addressesThatAreNone();
@@ -17,6 +18,7 @@ final class PlaceEdgesTest {
         runsEndAtTheCount();
         runsEndAtTheStop();
         latestStop();
+        eachStopIsForgotten();
         stepsTellEachStop();
         actsCountAll();
         Check.end();
@@ -51,6 +53,7 @@ final class PlaceEdgesTest {
                 TapeCalculator x = going(place, act);
                 Check.due("act " + act + " goes on", x.step(), 0);
                 Check.due("act " + act + " at " + place, x.told(5), place + 1);
+                Check.due("act " + act + " counts", x.acts(), 2);
             }
         }
     }
@@ -139,6 +142,35 @@ final class PlaceEdgesTest {
         for (int act = 2; act <= 4; act++) {
             Twin.stopsOnly("act " + act + " that does not go", 2, Check.plus(act, 512), PlaceEdgesTest::noneGoes);
         }
+    }
+
+    /** "OPERANDS: with plus HALF ADDRESS, with minus WHOLE ADDRESS less its lowest bit", of each ACT that calculates. */
+    private static void operandsOfHalvesAndWholes() {
+        for (int act : new int[] {5, 6, 7, 9, 10, 11, 15, 16, 17, 18}) {
+            for (int half : new int[] {1, 77, 131071, 131073, 262143}) {
+                TapeCalculator due = calculated(Check.minus(act, 200), half, 0);
+                String what = "act " + act + " of HALF " + half;
+                dueAlike(what, calculated(Check.plus(act, 200), half, 262143), due);
+                dueAlike(what + " at an odd ADDRESS", calculated(Check.plus(act, 203), 0, half), due);
+                dueAlike(what + " as an odd WHOLE", calculated(Check.minus(act, 201), half, 0), due);
+            }
+        }
+    }
+
+    /** Done with two HALVES at 200 and the same two at 202, and registers that SHARE takes. */
+    private static TapeCalculator calculated(int bits, int first, int second) {
+        TapeCalculator x = new TapeCalculator();
+        for (int n = 200; n < 204; n += 2) {
+            x.put(n, first);
+            x.put(n + 1, second);
+        }
+        Check.registers(x, 1, 99, 0, 3L << 33, 0);
+        Check.due("it goes on", Check.once(x, bits), 0);
+        return x;
+    }
+
+    private static void dueAlike(String what, TapeCalculator x, TapeCalculator due) {
+        Check.dueRegisters(what, x, (int) due.told(0), due.told(1), (int) due.told(2), due.told(3), (int) due.told(4));
     }
 
     /** The last ADDRESS of an OPERAND: 511, with minus 510 and 511 (of WHOLE 510). */
@@ -266,6 +298,29 @@ final class PlaceEdgesTest {
         Check.once(x, Twin.HALT);
         Check.due("run(0)", x.run(0), 0);
         Check.due("none since run(0)", x.told(8), 0);
+    }
+
+    /** Whichever it was, run() and step() go on behind it. */
+    private static void eachStopIsForgotten() {
+        int[][] stopping = {{Twin.HALT, 1}, {Check.plus(9, 512), 2}, {Check.plus(18, 300), 3}, {Check.plus(29, 0), 4},
+            {Check.plus(31, 0), 5}, {Check.plus(31, 0), 6}};
+        for (int[] row : stopping) {
+            TapeCalculator x = new TapeCalculator();
+            for (int i = 0; i < 300 && row[1] == 5; i++) {
+                x.lay(0, i);
+            }
+            // STOP 5 is that of a COPY behind 300 ITEMS that were read.
+            Check.program(x, 400, Check.plus(24, 256), Check.plus(31, 500), Check.plus(1, 401));
+            x.run(row[1] == 5 ? 601 : 0);
+            Check.once(x, Check.plus(row[1] == 5 ? 26 : 8, 256));
+            Check.due("STOP " + row[1], Check.once(x, row[0]), row[1]);
+            Check.program(x, 100, NOTHING, NOTHING);
+            Check.due("run behind STOP " + row[1], x.run(2), 2);
+            Check.due("none since run", x.told(8), 0);
+            Check.due("STOP " + row[1] + " again, of nothing CHOSEN", Check.once(x, row[0]), row[1] == 5 ? 6 : row[1]);
+            Check.due("step behind it", Check.once(x, NOTHING), 0);
+            Check.due("none since step", x.told(8), 0);
+        }
     }
 
     /** "One ACT: 0, or its STOP." */

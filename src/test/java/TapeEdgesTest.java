@@ -8,6 +8,9 @@ final class TapeEdgesTest {
     public static void main(String[] args) {
         unitAddresses();
         unitsThatAreNone();
+        eachTapeWritten();
+        eachTapeRead();
+        eachTapeBlank();
         emptyTapeByHand();
         emptyTapeRead();
         emptyTapeWritten();
@@ -102,6 +105,76 @@ final class TapeEdgesTest {
         }
         for (int act : new int[] {BACK, WRITE_END, REWIND}) {
             Twin.stopsOnly("act " + act + " of THE DRUM", 4, Check.plus(act, 128), Twin::stopped);
+        }
+    }
+
+    /** Each of the four: ITEMS gone by WRITE and WRITE END, words, an END OF RECORD, an END OF FILE. */
+    private static void eachTapeWritten() {
+        for (int t = 0; t < 4; t++) {
+            TapeCalculator x = behindOne(t);
+            act(x, WRITE, t);
+            Check.dueTape("WRITE of " + t, x, t, 1, 0);
+            copy(x);
+            copy(x);
+            Check.dueTape("words of " + t, x, t, 3, 0, WORD, WORD);
+            act(x, REWIND, t);
+            Check.dueTape("REWIND of " + t, x, t, 0, 0, WORD, WORD, RECORD);
+            act(x, WRITE_END, t);
+            Check.dueTape("WRITE END of " + t, x, t, 1, FILE);
+            x = behindOne(t);
+            act(x, WRITE_END, t);
+            Check.dueTape("WRITE END behind one of " + t, x, t, 2, 0, FILE);
+            x = behindOne(t);
+            act(x, WRITE, t);
+            copy(x);
+            Check.once(x, Twin.HALT);
+            Check.dueTape("HALT of " + t, x, t, 3, 0, WORD, RECORD);
+            for (int other = 0; other < 4; other++) {
+                Check.due("only " + t, x.blank(other), other == t ? 3 : 0);
+            }
+        }
+    }
+
+    /** A tape of 0, 1, 2 that stands behind 0; WHOLE 100 is WORD, nothing is CHOSEN. */
+    private static TapeCalculator behindOne(int tape) {
+        TapeCalculator x = new TapeCalculator();
+        fill(x, tape, 3);
+        act(x, READ, tape);
+        copy(x);
+        Check.once(x, Twin.HALT);
+        Check.putWhole(x, 100, WORD);
+        return x;
+    }
+
+    private static void eachTapeRead() {
+        for (int t = 0; t < 4; t++) {
+            TapeCalculator x = behindOne(t);
+            act(x, READ, t);
+            copy(x);
+            Check.due("READ of " + t, x.whole(100), 1);
+            Check.due("behind it", x.stands(t), 2);
+            act(x, BACK, t);
+            copy(x);
+            copy(x);
+            Check.due("READ BACK of " + t, x.whole(100), 0);
+            Check.due("ahead of it", x.stands(t), 0);
+            Check.due("CHOSEN", x.told(9), 5 + t);
+        }
+    }
+
+    private static void eachTapeBlank() {
+        for (int t = 0; t < 4; t++) {
+            TapeCalculator x = behindOne(t);
+            Check.due("blank of " + t, x.blank(t), 3);
+            Check.dueTape("blank of " + t, x, t, 0);
+            x = behindOne(t);
+            act(x, WRITE, t);
+            copy(x);
+            Check.due("blank of what is written " + t, x.blank(t), 2);
+            Check.due("CHOSEN yet", x.told(9), 9 + t);
+            Check.dueTape("empty " + t, x, t, 0);
+            Check.once(x, Twin.HALT);
+            Check.dueTape("no word since " + t, x, t, 0);
         }
     }
 
